@@ -699,7 +699,6 @@ public final class PulledWires {
             for (int i = 0; i < speakers.length; i++) {
                 speakers[i].talking = isIn(starting, i);
             }
-            over = 0;
             free = 0;
             talks++;
         }

@@ -43,6 +43,7 @@ public final class PromiseTests {
         promise11Perform();
         promise12Stopped();
         promise13Undo();
+        promise13UndoOfEachAct();
         promise14Keep();
         promise15Restore();
         promise16Speaker();
@@ -926,6 +927,123 @@ public final class PromiseTests {
         due("the same as before", y.run(4), 1);
     }
 
+    // Failures, a drop, a shaking, words, a loser; then a held clock, behind a stuck tick.
+    private static PulledWires busy() {
+        PulledWires x = new PulledWires();
+        x.set(2, 3);
+        x.hear(0, 5);
+        x.hold(0, 4);
+        x.say(1, 9, 3, NONE);
+        x.run(22);
+        x.stick(1, 50);
+        x.run(3);
+        x.say(0, 5, 1, 2);
+        x.say(2, 6, 1, 2);
+        x.say(0, 5, 7, NONE);
+        x.run(2 + 27 + 12 + 2 + 8);
+        x.stick(3, 1);
+        x.keep();
+        x.run(1);
+        return x;
+    }
+
+    private static int[] all(PulledWires x) {
+        int[] told = new int[14 + 28 + 20 + 25 + 24 + 5];
+        int n = 0;
+        for (int what = 0; what < 14; what++) told[n++] = x.count(what);
+        for (int i = 0; i < 28; i++) told[n++] = x.speaker(i / 7, i % 7);
+        for (int i = 0; i < 20; i++) told[n++] = x.listener(i / 5, i % 5);
+        for (int i = 0; i < 25; i++) told[n++] = i < 15 ? x.message(0, i / 5, i % 5) : x.message(2, i / 5 - 3, i % 5);
+        for (int i = 0; i < 24; i++) told[n++] = x.bit(i / 4 * 7, i % 4);
+        told[n++] = x.winners();
+        told[n++] = x.emptyIn();
+        for (int i = 0; i < 3; i++) told[n++] = x.ifRun(i, 120);
+        return told;
+    }
+
+    private static void act(PulledWires x, int number) {
+        switch (number) {
+            case 0: due("say", x.say(0, 1, 2, NONE), 2); break;
+            case 1: due("takeBack of a loser", x.takeBack(2), 0); break;
+            case 2: due("hear", x.hear(0, 6), 1); break;
+            case 3: due("hold", x.hold(0, 7), 4); break;
+            case 4: due("stick", x.stick(2, 9), 1); break;
+            case 5: due("set", x.set(1, 9), 2); break;
+            case 6: due("run", x.run(130), 1); break;
+            case 7: due("restore", x.restore(), 76); break;
+            default: due("perform", performText(x, "hear 3 9;run 99"), 2); break;
+        }
+    }
+
+    private static void promise13UndoOfEachAct() {
+        int[] some = all(busy());
+        due("held", some[3], 4);
+        due("stuck ticks", some[5], 1);
+        due("came", some[8], 1);
+        due("talks", some[9], 4);
+        due("shaken free", some[10], 1);
+        for (int number = 0; number <= 8; number++) {
+            PulledWires x = busy();
+            int[] before = all(x);
+            act(x, number);
+            due("an act is to be seen, " + number, java.util.Arrays.equals(before, all(x)) ? 1 : 0, 0);
+            due("undo", x.undo(), 3);
+            int[] after = all(x);
+            for (int i = 0; i < before.length; i++) {
+                due("act " + number + ", answer " + i, after[i], before[i]);
+            }
+        }
+        // More than 64 bits, and a shaking, are undone.
+        PulledWires b = new PulledWires();
+        b.set(1, 9);
+        b.set(2, 5);
+        b.say(0, 127, 1, NONE);
+        b.run(11);
+        due("nobody answers", b.bit(0, 0), 1);
+        due("the bit ahead of it", b.bit(1, 0), 0);
+        b.hear(0, 127);
+        for (int i = 0; i < 4; i++) {
+            b.say(0, 127, 1, 1);
+        }
+        b.stick(3, 99);
+        b.run(300);
+        due("came", b.count(8), 5);
+        due("shaken free", b.count(10), 1);
+        due("undo", b.undo(), 3);
+        due("not shaken", b.count(10), 0);
+        due("nobody answers", b.bit(0, 0), 1);
+        due("the bit ahead of it", b.bit(1, 0), 0);
+        due("and ahead of that", b.bit(2, 0), 1);
+        due("clock", b.bit(8, 2), 3);
+        due("no more", b.bit(9, 2), NONE);
+        PulledWires t = new PulledWires();
+        t.say(1, 1, 1, NONE);
+        t.say(1, 2, 2, NONE);
+        due("takeBack", t.takeBack(1), 1);
+        t.undo();
+        due("it is back", t.message(1, 1, 0), 2);
+        // Many acts: four states are kept, each as it was.
+        PulledWires h = new PulledWires();
+        for (int ticks = 1; ticks <= 9; ticks++) {
+            h.hold(0, ticks);
+        }
+        // What is only asked, or answers an error, does not touch them.
+        h.emptyIn();
+        h.ifRun(0, 300);
+        h.hold(0, 10);
+        for (int ticks = 8; ticks >= 5; ticks--) {
+            due("undo", h.undo(), ticks - 5);
+            due("hold", h.listener(0, 1), ticks);
+        }
+        due("no more", h.undo(), NONE);
+        for (int ticks = 6; ticks <= 9; ticks++) {
+            h.hold(0, ticks);
+        }
+        h.undo();
+        h.undo();
+        due("hold", h.listener(0, 1), 7);
+    }
+
     private static void promise14Keep() {
         PulledWires x = new PulledWires();
         due("clock", x.keep(), 0);
@@ -1213,6 +1331,7 @@ public final class PromiseTests {
         }
         x.say(1, 6, 0, NONE);
         due("not yet", x.ifRun(2, 19), 0);
+        due("one tick", x.ifRun(2, 1), 0);
         due("one", x.ifRun(2, 20), 1);
         due("two", x.ifRun(2, 40), 2);
         due("five", x.ifRun(2, 300), 5);
@@ -1222,6 +1341,7 @@ public final class PromiseTests {
         due("nothing is changed", x.count(7), 6);
         due("no act", x.count(14), 4);
         x.run(20);
+        due("all moved up", x.message(2, 3, 1), 4);
         due("from now on", x.ifRun(2, 20), 1);
         due("from now on", x.ifRun(2, 300), 4);
         due("so it is", x.run(20), 1);
