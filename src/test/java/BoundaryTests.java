@@ -66,6 +66,7 @@ public final class BoundaryTests {
     }
 
     public static void main(String[] args) throws IOException {
+        callsOfAnObject();
         speakersAndMessages();
         listeners();
         tick();
@@ -210,6 +211,29 @@ public final class BoundaryTests {
         PulledWires x = made.get();
         due(call, calling.applyAsInt(x), want);
         dueSame(call + " changed something", everything(x), everything(made.get()));
+    }
+
+    // ---- What it is
+
+    private static void callsOfAnObject() {
+        sentence("What it is", "An object is used for at most 512 calls after it has been made; what later calls answer"
+                + " is free.");
+        PulledWires x = new PulledWires();
+        for (int call = 1; call <= 510; call++) {
+            due("call " + call, x.run(1), 0);
+        }
+        due("the 511th", x.undo(), 3);
+        due("the 512th", x.count(0), 509);
+        PulledWires y = new PulledWires();
+        for (int call = 1; call <= 506; call++) {
+            due("call " + call, y.stick(call % 4, 99), Math.min(call, 4));
+        }
+        y.set(2, 99);
+        y.hear(0, 5);
+        y.say(0, 5, 1, NONE);
+        due("the 510th", y.run(99 + 19), 0);
+        due("the 511th", y.ifRun(0, 1), 1);
+        due("the 512th", y.run(1), 1);
     }
 
     // ---- Terms: speakers, messages
@@ -500,6 +524,7 @@ public final class BoundaryTests {
             x.run(1);
             due("free for one", x.count(4), 1);
             x.stick(listener, 1);
+            due("as before until the tick", x.count(4), 1);
             x.run(1);
             due("not free", x.count(4), 0);
             due("no start", x.count(9), 0);
@@ -3500,14 +3525,14 @@ public final class BoundaryTests {
         }
     }
 
-    /** The terms and the promises, without headings, the calls' first lines and what orders the calls. */
+    /** What is promised of an object, without headings, the calls' first lines and what orders the calls. */
     private static Map<String, String> sectionsOfTheDocument() throws IOException {
         Map<String, String> sections = new TreeMap<>();
         for (String section : Files.readString(DOCUMENT).split("(?m)^## ")) {
             String title = section.lines().findFirst().orElse("").replaceAll(":.*", "");
-            if (title.equals("Terms") || title.startsWith("Promise ")) {
+            if (title.equals("What it is") || title.equals("Terms") || title.startsWith("Promise ")) {
                 String text = section.substring(section.indexOf('\n') + 1);
-                text = text.replaceAll("(?m)^[A-Z, ]+$|^Ahead of the calls .*$|^`[^`]*\\)`: ", "");
+                text = text.replaceAll("(?m)^[A-Z, ]+$|^Two wires .*$|^Ahead of the calls .*$|^`[^`]*\\)`: ", "");
                 sections.put(title, text);
             }
         }

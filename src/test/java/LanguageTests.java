@@ -33,8 +33,9 @@ public final class LanguageTests {
             "winners", "emptyIn", "ifRun", "count");
     private static final Set<String> CONSTANTS = Set.of("UNKNOWN", "BAD_VALUE", "FULL", "NOT_POSSIBLE", "NONE");
     private static final Set<Tree.Kind> FORBIDDEN = Set.of(Tree.Kind.THROW, Tree.Kind.TRY, Tree.Kind.CATCH,
-            Tree.Kind.SYNCHRONIZED, Tree.Kind.ASSERT, Tree.Kind.LAMBDA_EXPRESSION, Tree.Kind.MEMBER_REFERENCE,
-            Tree.Kind.IMPORT, Tree.Kind.BINDING_PATTERN);
+            Tree.Kind.SYNCHRONIZED, Tree.Kind.ASSERT, Tree.Kind.LAMBDA_EXPRESSION, Tree.Kind.MEMBER_REFERENCE);
+    private static final Set<String> IMPORTS = Set.of("java.util.ArrayList", "java.util.Arrays", "java.util.Iterator",
+            "java.util.List");
 
     private static int wrong = 0;
 
@@ -180,6 +181,8 @@ public final class LanguageTests {
         Scan scan = new Scan(Trees.instance(task), unit);
         scan.scan(unit, null);
         rule(unit.getPackageName() == null, "a package line");
+        unit.getImports().forEach(i -> rule(!i.isStatic() && IMPORTS.contains(i.getQualifiedIdentifier().toString()),
+                "not in the library: " + i));
         rule(unit.getTypeDecls().size() == 1, "more than one class on the outside");
         rule(scan.classes <= 12, scan.classes + " classes");
         int deepest = 0;

@@ -577,7 +577,7 @@ public final class ModelTests {
         int calls = 0;
         String text = text(r);
         trace.append("\n  perform ").append(text);
-        if (r.nextInt(10) != 0) {
+        if (r.nextInt(10) != 0 && left > 1) {
             due(run, x.clearText(), m.text.length());
             m.text = "";
             calls++;
