@@ -289,8 +289,9 @@ public final class PulledWires {
             return answer;
         }
         State latest = spare;
-        if (historySize < history.length) {
+        if (isIndex(historySize, history.length)) {
             spare = history[historySize];
+            history[historySize] = latest;
             historySize++;
         } else {
             // The oldest state is dropped; its object is used again.
@@ -298,8 +299,8 @@ public final class PulledWires {
             for (int i = 1; i < history.length; i++) {
                 history[i - 1] = history[i];
             }
+            history[history.length - 1] = latest;
         }
-        history[historySize - 1] = latest;
         return answer;
     }
 

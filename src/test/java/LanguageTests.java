@@ -9,16 +9,21 @@ import com.sun.source.util.JavacTask;
 import com.sun.source.util.TreePathScanner;
 import com.sun.source.util.Trees;
 import java.io.File;
+import java.io.IOException;
 import java.lang.reflect.Constructor;
 import java.lang.reflect.Field;
 import java.lang.reflect.Method;
 import java.lang.reflect.Modifier;
+import java.nio.file.Files;
+import java.nio.file.Path;
 import java.util.ArrayList;
 import java.util.HashMap;
 import java.util.List;
 import java.util.Map;
 import java.util.Set;
 import java.util.TreeSet;
+import java.util.regex.Matcher;
+import java.util.regex.Pattern;
 import javax.lang.model.element.Element;
 import javax.lang.model.element.ElementKind;
 import javax.tools.JavaCompiler;
@@ -78,6 +83,34 @@ public final class LanguageTests {
                 rule(!FACE.contains(m.getName()), m + " bears the name of a public one");
             }
         }
+    }
+
+    /** Each declaration of the document's face, with its types and names, and its headings, in its order. */
+    private static void testFaceOfTheDocument() throws IOException {
+        String document = Files.readString(Path.of("../shared/DOC.md"));
+        List<String> source = Files.readAllLines(Path.of(FILE)).stream().map(String::strip).toList();
+        int last = -1;
+        int found = 0;
+        Matcher face = Pattern.compile("(?m)^ {4}(public .*);$").matcher(document);
+        while (face.find()) {
+            found++;
+            boolean isConstant = face.group(1).contains("=");
+            int at = source.indexOf(face.group(1) + (isConstant ? ";" : " {"));
+            rule(at > last, "not there, or not in the document's order: " + face.group(1));
+            last = Math.max(last, at);
+        }
+        rule(found == CONSTANTS.size() + 1 + FACE.size(), "the document has " + found + " declarations");
+        Matcher headings = Pattern.compile("(?m)^Ahead of the calls `(\\w+)`.* the interface says: (---- .*)\\.$")
+                .matcher(document);
+        found = 0;
+        while (headings.find()) {
+            found++;
+            int at = source.indexOf("// " + headings.group(2));
+            String next = at < 0 ? "" : source.subList(at + 1, source.size()).stream()
+                    .filter(line -> line.startsWith("public ")).findFirst().orElse("");
+            rule(next.startsWith("public int " + headings.group(1) + "("), "not ahead of its calls: " + headings.group(2));
+        }
+        rule(found == 4, "the document has " + found + " headings of calls");
     }
 
     private static final class Scan extends TreePathScanner<Void, Void> {
@@ -195,6 +228,7 @@ public final class LanguageTests {
 
     public static void main(String[] args) throws Exception {
         testFace();
+        testFaceOfTheDocument();
         testSource();
         System.out.println("LanguageTests: " + wrong + " rules are not kept");
         if (wrong != 0) System.exit(1);
