@@ -42,7 +42,31 @@ public final class LanguageTests {
     private static final Set<String> IMPORTS = Set.of("java.util.ArrayList", "java.util.Arrays", "java.util.Iterator",
             "java.util.List");
 
+    // What rule 4 lists, by class; of Integer, Long and Math see inLibrary().
+    private static final Map<String, Set<String>> LIBRARY = Map.of(
+            "java.lang.String", Set.of("length()", "charAt(int)", "isEmpty()", "equals(java.lang.Object)",
+                    "indexOf(int)", "substring(int)", "substring(int,int)", "toCharArray()", "String(char[])"),
+            "java.lang.StringBuilder", Set.of("StringBuilder()", "append(char)", "append(java.lang.String)",
+                    "append(int)", "charAt(int)", "setCharAt(int,char)", "setLength(int)", "deleteCharAt(int)",
+                    "reverse()", "length()", "toString()"),
+            "java.util.ArrayList", Set.of("<E>ArrayList()", "add(E)", "add(int,E)", "get(int)", "set(int,E)",
+                    "remove(int)", "size()", "isEmpty()", "clear()"),
+            "java.util.List", Set.of("add(E)", "add(int,E)", "get(int)", "set(int,E)", "remove(int)", "size()",
+                    "isEmpty()", "clear()"),
+            "java.lang.System", Set.of("arraycopy(java.lang.Object,int,java.lang.Object,int,int)"));
+
     private static int wrong = 0;
+
+    /** Calls of the library that rule 4 lists; a few that it also lists, which are not used, are left out here. */
+    private static boolean inLibrary(Element called) {
+        String inClass = called.getEnclosingElement().toString();
+        String name = called.toString();
+        if (Set.of("java.lang.Integer", "java.lang.Long", "java.lang.Math").contains(inClass)) {
+            return called.getModifiers().contains(javax.lang.model.element.Modifier.STATIC)
+                    && name.matches("(?!\\w*Exact\\()\\w+\\((int|long)(,(int|long))*\\)");
+        }
+        return LIBRARY.getOrDefault(inClass, Set.of()).contains(name);
+    }
 
     private static void rule(boolean holds, String text) {
         if (!holds) {
@@ -171,6 +195,9 @@ public final class LanguageTests {
             if (!isField && called != null && (called.getKind() == ElementKind.METHOD
                     || called.getKind() == ElementKind.CONSTRUCTOR)) {
                 calls.computeIfAbsent(inMethod, k -> new TreeSet<>()).add(name(called));
+                boolean isOwn = called.getEnclosingElement().toString().startsWith("PulledWires");
+                rule(isOwn || called.toString().equals("super()") || called.toString().equals("Object()")
+                        || inLibrary(called), "not in the library: " + name(called));
             }
         }
 

@@ -78,6 +78,8 @@ public final class ReadmeTests {
                 code.append("    }\n");
             } else if (inside) {
                 code.append("        ").append(asCode(i + 1, line)).append('\n');
+            } else {
+                holds("README.md line " + (i + 1) + " is in no example: " + line, !line.startsWith("wires."));
             }
         }
         code.append("}\n");
